@@ -1,0 +1,331 @@
+import java.util.Arrays;
+
+/**
+ * Facets over hits: counts of values by trees, bands of years, chosen ones
+ * combined, the most frequent in order, shares as exact fractions.
+ */
+public final class FacetRows {
+    /** None such. */
+    public static final int NONE = -1;
+
+    private static final int MOST_RECORDS = 60;
+    private static final int FACETS = 6;
+    private static final int VALUES = 100;
+    private static final int MOST_HELD = 400;
+    private static final long EVERY_RECORD = -1L;
+
+    // A set of records is a long, record r its bit r: sixty records fit, and
+    // no call has to make an object. The rows have a cell for each value of
+    // each facet.
+    private final long[] holders;
+    // Follows from holders and broaderOf; kept because choosing and counting
+    // ask for it far more often than it changes.
+    private final long[] havers;
+    private final int[] broaderOf;
+    private final boolean[] chosen;
+    // What top and below work on; of no meaning between two calls.
+    private final int[] counts;
+    private int records;
+    private int held;
+    private long hits;
+
+    /** No records, no trees, no hits, nothing chosen. */
+    public FacetRows() {
+        holders = new long[FACETS * VALUES];
+        havers = new long[FACETS * VALUES];
+        broaderOf = new int[FACETS * VALUES];
+        Arrays.fill(broaderOf, NONE);
+        chosen = new boolean[FACETS * VALUES];
+        counts = new int[VALUES];
+        records = 0;
+        held = 0;
+        hits = 0L;
+    }
+
+    /** A record more: its number; 0 if there are 60. */
+    public int record() {
+        if (records >= MOST_RECORDS) {
+            return 0;
+        }
+        records++;
+        return records;
+    }
+
+    /** A record has a value of a facet: how many of that facet it has then; 0 if refused. */
+    public int value(int record, int facet, int v) {
+        if (!isRecord(record) || !isFacet(facet) || !isValue(v)) {
+            return 0;
+        }
+        if (holds(record, facet, v) || held >= MOST_HELD) {
+            return 0;
+        }
+        holders[cell(facet, v)] |= bit(record);
+        held++;
+        raise(facet, v, bit(record));
+        return heldOf(record, facet);
+    }
+
+    /** A record's value goes: true; false if it has not got it. */
+    public boolean gone(int record, int facet, int v) {
+        if (!isRecord(record) || !isFacet(facet) || !isValue(v)) {
+            return false;
+        }
+        if (!holds(record, facet, v)) {
+            return false;
+        }
+        holders[cell(facet, v)] &= ~bit(record);
+        held--;
+        raiseAll(facet);
+        return true;
+    }
+
+    /** A value lies below another one from now on (-1: below none): 1; 0 if refused. */
+    public int narrower(int facet, int v, int broader) {
+        if (!isFacet(facet) || !isValue(v)) {
+            return 0;
+        }
+        if (broader != NONE && (!isValue(broader) || isAtOrBelow(facet, broader, v))) {
+            return 0;
+        }
+        broaderOf[cell(facet, v)] = broader;
+        raiseAll(facet);
+        return 1;
+    }
+
+    /** A record becomes a hit, or is one no more: how many hits there are. */
+    public int hit(int record, boolean on) {
+        if (!isRecord(record)) {
+            return NONE;
+        }
+        if (on) {
+            hits |= bit(record);
+        } else {
+            hits &= ~bit(record);
+        }
+        return Long.bitCount(hits);
+    }
+
+    /** A value is chosen, or no more, if it was: how many hits are left. */
+    public int choose(int facet, int v) {
+        if (!isFacet(facet) || !isValue(v)) {
+            return NONE;
+        }
+        chosen[cell(facet, v)] = !chosen[cell(facet, v)];
+        return Long.bitCount(hitsLeft());
+    }
+
+    /** How many hits that are left have a value. */
+    public int count(int facet, int v) {
+        if (!isFacet(facet) || !isValue(v)) {
+            return NONE;
+        }
+        return Long.bitCount(hitsLeft() & havers[cell(facet, v)]);
+    }
+
+    /** The i-th of a facet's values, the most frequent first. */
+    public int top(int facet, int i) {
+        if (!isFacet(facet)) {
+            return NONE;
+        }
+        countValues(facet);
+        return ranked(i);
+    }
+
+    /** The i-th likewise, of the roots alone or of those straight below a value. */
+    public int below(int facet, boolean roots, int v, int i) {
+        // Without this test, v = -1 would stand for the roots.
+        if (!isFacet(facet) || (!roots && !isValue(v))) {
+            return NONE;
+        }
+        countValues(facet);
+        dropOthersThanBelow(facet, roots ? NONE : v);
+        return ranked(i);
+    }
+
+    /** How many hits that are left have a value from one to another of their own. */
+    public int band(int facet, int from, int to) {
+        if (!isFacet(facet) || to < from) {
+            return NONE;
+        }
+        return Long.bitCount(hitsLeft() & holdersBetween(facet, from, to));
+    }
+
+    /** The share of the hits left that have a value, in least terms: a side of its line. */
+    public long share(int facet, int v, int side) throws ArithmeticException {
+        if (!isFacet(facet) || !isValue(v)) {
+            return NONE;
+        }
+        long left = hitsLeft();
+        int all = Long.bitCount(left);
+        if (all == 0) {
+            throw new ArithmeticException("no hit is left");
+        }
+        int having = Long.bitCount(left & havers[cell(facet, v)]);
+        int divisor = commonDivisor(having, all);
+        return side == 0 ? having / divisor : all / divisor;
+    }
+
+    /** How many hits that are left have no value of a facet. */
+    public int missing(int facet) {
+        if (!isFacet(facet)) {
+            return NONE;
+        }
+        return Long.bitCount(hitsLeft() & ~holdersBetween(facet, 0, VALUES - 1));
+    }
+
+    /** The i-th hit that is left, by numbers; 0 if there is none such. */
+    public int left(int i) {
+        long left = hitsLeft();
+        int before = 0;
+        for (int record = 1; record <= records; record++) {
+            if ((left & bit(record)) != 0L) {
+                if (before == i) {
+                    return record;
+                }
+                before++;
+            }
+        }
+        return 0;
+    }
+
+    private boolean isRecord(int record) {
+        return record >= 1 && record <= records;
+    }
+
+    private static boolean isFacet(int facet) {
+        return facet >= 0 && facet < FACETS;
+    }
+
+    private static boolean isValue(int v) {
+        return v >= 0 && v < VALUES;
+    }
+
+    private static int cell(int facet, int v) {
+        return facet * VALUES + v;
+    }
+
+    private static long bit(int record) {
+        return 1L << record;
+    }
+
+    private boolean holds(int record, int facet, int v) {
+        return (holders[cell(facet, v)] & bit(record)) != 0L;
+    }
+
+    private int heldOf(int record, int facet) {
+        int sum = 0;
+        for (int v = 0; v < VALUES; v++) {
+            if (holds(record, facet, v)) {
+                sum++;
+            }
+        }
+        return sum;
+    }
+
+    private long holdersBetween(int facet, int from, int to) {
+        int last = Math.min(to, VALUES - 1);
+        long some = 0L;
+        for (int v = Math.max(from, 0); v <= last; v++) {
+            some |= holders[cell(facet, v)];
+        }
+        return some;
+    }
+
+    // A tree is no deeper than its values are many; the counter shows that
+    // the way up ends without resting on there being no ring.
+    private boolean isAtOrBelow(int facet, int v, int other) {
+        int at = v;
+        for (int steps = 0; steps < VALUES && isValue(at); steps++) {
+            if (at == other) {
+                return true;
+            }
+            at = broaderOf[cell(facet, at)];
+        }
+        return false;
+    }
+
+    private void raise(int facet, int v, long some) {
+        int at = v;
+        for (int steps = 0; steps < VALUES && isValue(at); steps++) {
+            havers[cell(facet, at)] |= some;
+            at = broaderOf[cell(facet, at)];
+        }
+    }
+
+    // What a value or a branch leaves behind above it may still come from
+    // elsewhere, so the facet is gathered anew.
+    private void raiseAll(int facet) {
+        for (int v = 0; v < VALUES; v++) {
+            havers[cell(facet, v)] = 0L;
+        }
+        for (int v = 0; v < VALUES; v++) {
+            long some = holders[cell(facet, v)];
+            if (some != 0L) {
+                raise(facet, v, some);
+            }
+        }
+    }
+
+    private long hitsLeft() {
+        long left = hits;
+        for (int facet = 0; facet < FACETS; facet++) {
+            left &= admitted(facet);
+        }
+        return left;
+    }
+
+    private long admitted(int facet) {
+        boolean any = false;
+        long some = 0L;
+        for (int v = 0; v < VALUES; v++) {
+            if (chosen[cell(facet, v)]) {
+                any = true;
+                some |= havers[cell(facet, v)];
+            }
+        }
+        return any ? some : EVERY_RECORD;
+    }
+
+    private void countValues(int facet) {
+        long left = hitsLeft();
+        for (int v = 0; v < VALUES; v++) {
+            counts[v] = Long.bitCount(left & havers[cell(facet, v)]);
+        }
+    }
+
+    private void dropOthersThanBelow(int facet, int broader) {
+        for (int v = 0; v < VALUES; v++) {
+            if (broaderOf[cell(facet, v)] != broader) {
+                counts[v] = 0;
+            }
+        }
+    }
+
+    // A count is at most sixty, so going down the counts sorts without a
+    // second row.
+    private int ranked(int i) {
+        int before = 0;
+        for (int much = MOST_RECORDS; much >= 1; much--) {
+            for (int v = 0; v < VALUES; v++) {
+                if (counts[v] == much) {
+                    if (before == i) {
+                        return v;
+                    }
+                    before++;
+                }
+            }
+        }
+        return NONE;
+    }
+
+    // Never 0, so that dividing by it is safe; of 0 and all it is all, which
+    // makes a share of nothing 0 / 1.
+    private static int commonDivisor(int part, int all) {
+        for (int d = all; d > 1; d--) {
+            if (part % d == 0 && all % d == 0) {
+                return d;
+            }
+        }
+        return 1;
+    }
+}
