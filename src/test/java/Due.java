@@ -20,6 +20,14 @@ final class Due {
         is(call, got ? 1L : 0L, want ? 1L : 0L);
     }
 
+    void is(String what, String got, String want) {
+        looked++;
+        if (!got.equals(want)) {
+            wrong++;
+            System.out.println(part + ": " + what + ": " + got + ", due is: " + want);
+        }
+    }
+
     void isTrue(String what, boolean holds) {
         is(what, holds, true);
     }
@@ -29,9 +37,15 @@ final class Due {
         try {
             x.share(facet, v, side);
         } catch (ArithmeticException e) {
-            thrown = true;
+            thrown = !isOfTheMachine(e);
         }
         is("share(" + facet + ", " + v + ", " + side + ") throws ArithmeticException", thrown, true);
+    }
+
+    // A division by zero must not pass for the exception that the document
+    // wants; the machine's own text tells it.
+    static boolean isOfTheMachine(ArithmeticException e) {
+        return "/ by zero".equals(e.getMessage());
     }
 
     void end() {
