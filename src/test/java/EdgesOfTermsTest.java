@@ -114,6 +114,7 @@ public final class EdgesOfTermsTest extends Edges {
         }
         s.due(2, value(40, 0, 1));
         s.refused(0, value(40, 0, 1)).refused(0, value(41, 0, 1)).refused(0, value(1, 5, 99));
+        s.refused(0, record());
         s.due(1, gone(40, 0, 1)).due(2, value(60, 0, 1));
         s.refused(0, value(40, 0, 1)).refused(0, value(60, 5, 99));
     }

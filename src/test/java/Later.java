@@ -70,6 +70,7 @@ final class Later extends Calls {
         all.add(new Look(everyRecordAndHit(), hitsAndBands()));
         all.add(new Look(List.of(record()), fill()));
         all.add(new Look(List.of(record(), hit(1, true)), oneByOne()));
+        all.add(new Look(List.of(), oneByOneKeptOut()));
         for (int facet = 0; facet < FACETS; facet++) {
             all.add(new Look(everyValue(facet), tree(facet)));
         }
@@ -137,9 +138,20 @@ final class Later extends Calls {
         List<Call> calls = new ArrayList<>();
         for (int facet = 0; facet < FACETS; facet++) {
             for (int v = 0; v < VALUES; v++) {
-                calls.add(value(1, facet, v));
-                calls.add(left(0));
-                calls.add(gone(1, facet, v));
+                calls.addAll(List.of(value(1, facet, v), left(0), gone(1, facet, v)));
+            }
+        }
+        return calls;
+    }
+
+    // Where others of its facet are chosen too, it is seen only by a hit that
+    // this facet alone keeps out; in EdgesOfRefusalsTest the hit 5 + facet is
+    // one, behind four that are left.
+    private static List<Call> oneByOneKeptOut() {
+        List<Call> calls = new ArrayList<>();
+        for (int facet = 0; facet < FACETS; facet++) {
+            for (int v = 0; v < VALUES; v++) {
+                calls.addAll(List.of(value(5 + facet, facet, v), left(4), gone(5 + facet, facet, v)));
             }
         }
         return calls;
