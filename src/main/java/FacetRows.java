@@ -2,10 +2,10 @@ import java.util.Arrays;
 
 /**
  * Facets over hits: counts of values by trees, bands of years, chosen ones
- * combined, the most frequent in order, shares as exact fractions.
+ * combined, the most frequent in order, shares as exact fractions. What each
+ * call answers stands in the document and, by an example, in README.md.
  */
 public final class FacetRows {
-    /** None such. */
     public static final int NONE = -1;
 
     private static final int MOST_RECORDS = 60;
@@ -29,7 +29,6 @@ public final class FacetRows {
     private int held;
     private long hits;
 
-    /** No records, no trees, no hits, nothing chosen. */
     public FacetRows() {
         holders = new long[FACETS * VALUES];
         havers = new long[FACETS * VALUES];
@@ -42,7 +41,6 @@ public final class FacetRows {
         hits = 0L;
     }
 
-    /** A record more: its number; 0 if there are 60. */
     public int record() {
         if (records >= MOST_RECORDS) {
             return 0;
@@ -51,11 +49,11 @@ public final class FacetRows {
         return records;
     }
 
-    /** A record has a value of a facet: how many of that facet it has then; 0 if refused. */
     public int value(int record, int facet, int v) {
         if (!isRecord(record) || !isFacet(facet) || !isValue(v)) {
             return 0;
         }
+        // Its own values alone: one that it has by the tree may still become one.
         if (holds(record, facet, v) || held >= MOST_HELD) {
             return 0;
         }
@@ -65,7 +63,6 @@ public final class FacetRows {
         return heldOf(record, facet);
     }
 
-    /** A record's value goes: true; false if it has not got it. */
     public boolean gone(int record, int facet, int v) {
         if (!isRecord(record) || !isFacet(facet) || !isValue(v)) {
             return false;
@@ -79,7 +76,6 @@ public final class FacetRows {
         return true;
     }
 
-    /** A value lies below another one from now on (-1: below none): 1; 0 if refused. */
     public int narrower(int facet, int v, int broader) {
         if (!isFacet(facet) || !isValue(v)) {
             return 0;
@@ -92,7 +88,6 @@ public final class FacetRows {
         return 1;
     }
 
-    /** A record becomes a hit, or is one no more: how many hits there are. */
     public int hit(int record, boolean on) {
         if (!isRecord(record)) {
             return NONE;
@@ -105,7 +100,6 @@ public final class FacetRows {
         return Long.bitCount(hits);
     }
 
-    /** A value is chosen, or no more, if it was: how many hits are left. */
     public int choose(int facet, int v) {
         if (!isFacet(facet) || !isValue(v)) {
             return NONE;
@@ -114,7 +108,6 @@ public final class FacetRows {
         return Long.bitCount(hitsLeft());
     }
 
-    /** How many hits that are left have a value. */
     public int count(int facet, int v) {
         if (!isFacet(facet) || !isValue(v)) {
             return NONE;
@@ -122,7 +115,6 @@ public final class FacetRows {
         return Long.bitCount(hitsLeft() & havers[cell(facet, v)]);
     }
 
-    /** The i-th of a facet's values, the most frequent first. */
     public int top(int facet, int i) {
         if (!isFacet(facet)) {
             return NONE;
@@ -131,7 +123,6 @@ public final class FacetRows {
         return ranked(i);
     }
 
-    /** The i-th likewise, of the roots alone or of those straight below a value. */
     public int below(int facet, boolean roots, int v, int i) {
         // Without this test, v = -1 would stand for the roots.
         if (!isFacet(facet) || (!roots && !isValue(v))) {
@@ -142,7 +133,6 @@ public final class FacetRows {
         return ranked(i);
     }
 
-    /** How many hits that are left have a value from one to another of their own. */
     public int band(int facet, int from, int to) {
         if (!isFacet(facet) || to < from) {
             return NONE;
@@ -150,8 +140,8 @@ public final class FacetRows {
         return Long.bitCount(hitsLeft() & holdersBetween(facet, from, to));
     }
 
-    /** The share of the hits left that have a value, in least terms: a side of its line. */
     public long share(int facet, int v, int side) throws ArithmeticException {
+        // Before the throw: of no value there is no share that could lack a hit.
         if (!isFacet(facet) || !isValue(v)) {
             return NONE;
         }
@@ -165,7 +155,6 @@ public final class FacetRows {
         return side == 0 ? having / divisor : all / divisor;
     }
 
-    /** How many hits that are left have no value of a facet. */
     public int missing(int facet) {
         if (!isFacet(facet)) {
             return NONE;
@@ -173,7 +162,6 @@ public final class FacetRows {
         return Long.bitCount(hitsLeft() & ~holdersBetween(facet, 0, VALUES - 1));
     }
 
-    /** The i-th hit that is left, by numbers; 0 if there is none such. */
     public int left(int i) {
         long left = hitsLeft();
         int before = 0;
@@ -222,6 +210,7 @@ public final class FacetRows {
         return sum;
     }
 
+    // A band may reach beyond the values at both ends.
     private long holdersBetween(int facet, int from, int to) {
         int last = Math.min(to, VALUES - 1);
         long some = 0L;

@@ -28,6 +28,8 @@ public final class FaceTest {
         due.part("the face");
         due.isTrue("the class is public and final",
             Modifier.isPublic(FacetRows.class.getModifiers()) && Modifier.isFinal(FacetRows.class.getModifiers()));
+        due.isTrue("the class extends and implements nothing",
+            FacetRows.class.getSuperclass() == Object.class && FacetRows.class.getInterfaces().length == 0);
         methods(due);
         fields(due);
         Constructor<?>[] all = FacetRows.class.getDeclaredConstructors();

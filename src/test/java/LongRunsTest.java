@@ -1,6 +1,8 @@
 /** Long runs of mixed calls, beside the plain model; the same runs every time. */
 public final class LongRunsTest {
     private static final int CALLS = 512;
+    // What no answer is, so that it never passes for one that is due.
+    private static final long BY_THE_MACHINE = Long.MAX_VALUE;
     private static final int[] ODD = {Integer.MIN_VALUE, -100, -2, -1, 6, 60, 61, 64, 65, 99, 100, 101, 600,
         Integer.MAX_VALUE};
 
@@ -97,7 +99,7 @@ public final class LongRunsTest {
     private void ask() {
         int f = facet();
         int v = v();
-        int i = any(below(5));
+        int i = any(below(below(3) == 0 ? 101 : 6));
         switch (below(7)) {
             case 0 -> due.is("count(" + f + ", " + v + ")", x.count(f, v), plain.count(f, v));
             case 1 -> due.is("top(" + f + ", " + i + ")", x.top(f, i), plain.top(f, i));
@@ -121,7 +123,7 @@ public final class LongRunsTest {
         try {
             got = x.share(f, v, side);
         } catch (ArithmeticException e) {
-            got = PlainRows.NO_ANSWER;
+            got = Due.isOfTheMachine(e) ? BY_THE_MACHINE : PlainRows.NO_ANSWER;
         }
         due.is("share(" + f + ", " + v + ", " + side + ")", got, plain.share(f, v, side));
     }
